@@ -739,9 +739,9 @@ public final class Sharedair {
             return follow(node, other) == CIRCLE;
         }
 
+        /** A way that has not ended after as many nodes as there can be comes to one of them twice. */
         private int follow(int node, int other) {
             int at = node;
-            int visited = 1 << node;
             for (int length = 1; length <= MAX_NODES; length++) {
                 if (at == other) {
                     return length;
@@ -750,10 +750,6 @@ public final class Sharedair {
                 if (!land.isNode(at)) {
                     return NONE;
                 }
-                if (isIn(visited, at)) {
-                    return CIRCLE;
-                }
-                visited |= 1 << at;
             }
             return CIRCLE;
         }

@@ -74,6 +74,13 @@ public final class MarketTest {
         auction(air, 2, 8, 0, 0, 7, 0, 0);
         check.same("sell()", air.sell(), 7);
         check.same("air(10)", air.air(10), 47);
+        air.bid(0, 1, 1);
+        air.bid(4, 2, 20);
+        air.bid(2, 2, 15);
+        air.bid(1, 1, 1);
+        auction(air, 3, 21, 1, 0, 0, 0, 15);
+        check.same("sell() with the first and the last bidder", air.sell(), 16);
+        check.same("air(10)", air.air(10), 63);
     }
 
     private static void refuses() {

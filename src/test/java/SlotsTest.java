@@ -7,6 +7,7 @@ public final class SlotsTest {
 
     public static void main(String[] args) {
         sendNumbersByFrom();
+        queueKeepsItsOrder();
         sendRefuses();
         passRefuses();
         frameOfTwoSlots();
@@ -61,6 +62,29 @@ public final class SlotsTest {
         check.same("ofNode(2, 15)", air.ofNode(2, 15), 1);
         check.same("air(7)", air.air(7), 4);
         check.same("row()", air.row(), "q.q");
+    }
+
+    private static void queueKeepsItsOrder() {
+        Sharedair air = line(3);
+        air.move(2, 29, 29);
+        air.exchange(10);
+        int[] to = {2, 1, 2, 1};
+        for (int i = 0; i < 4; i++) {
+            air.send(0, to[i], i % 3 + 1);
+        }
+        air.pass(1);
+        air.send(0, 2, 2);
+        int[][] due = {{1, 2, 1}, {2, 3, 2}, {1, 1, 3}, {2, 2, 4}};
+        for (int nth = 0; nth < 4; nth++) {
+            for (int what = 1; what <= 3; what++) {
+                check.same("inQueue(0, " + nth + ", " + what + ")", air.inQueue(0, nth, what), due[nth][what - 1]);
+            }
+        }
+        air.pass(2);
+        air.send(0, 1, 3);
+        for (int nth = 0; nth < 4; nth++) {
+            check.same("inQueue(0, " + nth + ", 3)", air.inQueue(0, nth, 3), nth + 2);
+        }
     }
 
     private static void sendRefuses() {
