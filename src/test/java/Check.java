@@ -1,3 +1,5 @@
+import java.util.function.Consumer;
+
 /** Counts the answers that are not due, and ends the program with exit code 1 if there was one. */
 final class Check {
     private int wrong = 0;
@@ -12,14 +14,29 @@ final class Check {
     /** The call has to throw exactly that exception (no subclass of it), and to change nothing. */
     void refused(String what, Class<?> due, Sharedair air, Runnable call) {
         long before = air.digest();
-        Class<?> got = null;
+        same(what + " throws", thrownBy(call), due);
+        same("digest() after the refused " + what, air.digest(), before);
+    }
+
+    /** As refused(), on a new object made ready for it; it answers as before, and later as one without that call. */
+    void refusedOn(Consumer<Sharedair> ready, String what, Class<?> due, Consumer<Sharedair> call) {
+        Sharedair air = new Sharedair();
+        Sharedair twin = new Sharedair();
+        ready.accept(air);
+        ready.accept(twin);
+        String before = Answers.of(air);
+        same(what + " throws", thrownBy(() -> call.accept(air)), due);
+        same("what is answered after the refused " + what, Answers.of(air), before);
+        same("what is answered later after the refused " + what, Answers.later(air), Answers.later(twin));
+    }
+
+    private static Object thrownBy(Runnable call) {
         try {
             call.run();
         } catch (RuntimeException e) {
-            got = e.getClass();
+            return e.getClass();
         }
-        same(what + " throws", got, due);
-        same("digest() after the refused " + what, air.digest(), before);
+        return "nothing";
     }
 
     void end() {
