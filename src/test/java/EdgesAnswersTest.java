@@ -126,7 +126,9 @@ public final class EdgesAnswersTest {
         check.same("row() as it sends", air.row(), "T.");
         air.pass(1);
         check.same("row() with a WAIT", air.row(), "w.");
-        air.pass(3);
+        air.pass(air.ofNode(0, 5) - 1);
+        check.same("row() with a WAIT of 1", air.row(), "w.");
+        air.pass(1);
         check.same("row() with a WAIT of 0", air.row(), "q.");
         air.pass(1);
         check.same("row() as it sends again", air.row(), "T.");
@@ -143,6 +145,7 @@ public final class EdgesAnswersTest {
         check.same("would() of all others, FAR 1 and 4", air.would(254, 0), 1);
         check.same("would() of all others, FAR 1 and 1", air.would(255 - 8, 3), -1);
         check.same("would() of the last alone", air.would(128, 0), 7);
+        check.same("would() of the first alone", air.would(1, 7), 0);
     }
 
     private static void wouldOfNoSet() {
@@ -188,17 +191,18 @@ public final class EdgesAnswersTest {
     /** The values that the checksum is of, in their order. */
     private static List<Integer> values(Sharedair air) {
         List<Integer> values = new ArrayList<>();
+        int nodes = air.air(1);
         for (int what = 0; what <= 12; what++) {
             values.add(air.air(what));
         }
-        for (int node = 0; node < air.air(1); node++) {
+        for (int node = 0; node < nodes; node++) {
             for (int what = 0; what <= 15; what++) {
                 values.add(air.ofNode(node, what));
             }
             for (int what = 0; what <= 4; what++) {
                 values.add(air.inQueue(node, 0, what));
             }
-            for (int other = 0; other < air.air(1); other++) {
+            for (int other = 0; other < nodes; other++) {
                 for (int what = 0; what <= 3 && other != node; what++) {
                     values.add(air.route(node, other, what));
                 }

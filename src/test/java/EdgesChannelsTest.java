@@ -8,6 +8,7 @@ public final class EdgesChannelsTest {
         nothingWithoutBids();
         tenBidsNumberedFromZero();
         bidsGoOnFromZeroOnceSold();
+        soldBidsLeaveNothing();
         bidderIsZeroToFour();
         channelsAreOneToSixtyThree();
         priceIsOneToNineHundredNinetyNine();
@@ -71,6 +72,22 @@ public final class EdgesChannelsTest {
             auction(air, 0, 0, 0, 0, 0, 0, 0);
         }
         check.same("PAID", air.air(10), 3 * 998);
+    }
+
+    /** Of what was bid ahead nothing is left: neither what would be without BIDDER 0, nor which BIDS went together. */
+    private static void soldBidsLeaveNothing() {
+        Sharedair air = with(0, 1, 50, 1, 1, 30, 2, 2, 20);
+        air.sell();
+        air.bid(0, 1, 9);
+        auction(air, 1, 9, 0, 0, 0, 0, 0);
+        air.bid(0, 2, 8);
+        air.bid(1, 4, 7);
+        auction(air, 5, 16, 0, 0, 0, 0, 0);
+        air.sell();
+        air.bid(2, 3, 5);
+        air.bid(3, 1, 4);
+        air.bid(4, 2, 3);
+        auction(air, 6, 7, 0, 0, 0, 2, 1);
     }
 
     private static void bidderIsZeroToFour() {

@@ -11,6 +11,7 @@ public final class EdgesFairnessTest {
         threeRepeatsOrMore();
         lessThanNotEqual();
         littleLessIsLess();
+        firstNodeIsOneOfTheOthers();
         lessThanNotEqualByNothing();
         aloneIsNoSuspect();
         check.end();
@@ -133,6 +134,16 @@ public final class EdgesFairnessTest {
         asked(air, "PATIENCE", 2, 11, 6);
         asked(air, "REPEATS", 2, 12, 2);
         asked(air, "SUSPECT by 16 and 18", 0, 13, 1);
+    }
+
+    private static void firstNodeIsOneOfTheOthers() {
+        Sharedair air = deafPairs();
+        air.tune(2, 5, true);
+        air.send(0, 1, 1);
+        air.send(2, 3, 1);
+        air.pass(3);
+        asked(air, "PATIENCE", 0, 11, 3);
+        asked(air, "SUSPECT by PATIENCE of 0 alone", 2, 13, 1);
     }
 
     private static void lessThanNotEqualByNothing() {

@@ -22,6 +22,7 @@ public final class EdgesReceivingTest {
         onceDeliveredThenDouble();
         sameNumberOfAnotherFrom();
         deliveredFromTheFirstNumberToTheLast();
+        numbersToTheLastOfAllCalls();
         sixHopsAreCopiedSevenAreNot();
         sevenHopsAreDelivered();
         queueOfThreeTakesTheCopy();
@@ -303,6 +304,21 @@ public final class EdgesReceivingTest {
         check.same("delivered() of the first", air.delivered(0, 0), true);
         check.refused("delivered() ahead of the first", INDEX, air, () -> air.delivered(0, -1));
         check.refused("delivered() of another FROM", INDEX, air, () -> air.delivered(1, 0));
+    }
+
+    /** As many FRAMES as 512 calls leave room for. */
+    private static void numbersToTheLastOfAllCalls() {
+        Sharedair air = line(2);
+        for (int number = 0; number < 400; number++) {
+            check.same("send()", air.send(0, 1, 1), number);
+            if (number % 4 == 3) {
+                air.pass(4);
+            }
+        }
+        check.same("DELIVERED", air.air(4), 400);
+        check.same("FRAMES sent", air.ofNode(0, 15), 400);
+        check.same("delivered() of the last", air.delivered(0, 399), true);
+        check.same("isSound()", air.isSound(), true);
     }
 
     /** Between 0 and 3 a FRAME for node 2, which has gone, goes in a CIRCLE. */

@@ -18,6 +18,7 @@ public final class EdgesRoutesTest {
         waysOfTwoAndOfEight();
         noWayAtFirstAndFurtherOn();
         circleFromItsNode();
+        circleAroundTheFirstNode();
         circleBehindOthers();
         check.end();
     }
@@ -180,6 +181,16 @@ public final class EdgesRoutesTest {
         way(air, 0, 2, 3, 3, -1, 1);
         way(air, 3, 2, 3, 0, -1, 1);
         way(air, 0, 3, 1, 3, 2, 0);
+        check.same("pairs in a CIRCLE", air.air(12), 2);
+    }
+
+    private static void circleAroundTheFirstNode() {
+        Sharedair air = places(3, 10, 15, 10, 12, 10, 10, 12, 10);
+        air.exchange(2);
+        air.move(0, 29, 29);
+        air.exchange(2);
+        way(air, 2, 0, 3, 3, -1, 1);
+        way(air, 3, 0, 3, 2, -1, 1);
         check.same("pairs in a CIRCLE", air.air(12), 2);
     }
 

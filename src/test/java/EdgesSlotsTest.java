@@ -13,6 +13,7 @@ public final class EdgesSlotsTest {
         threeSlotsAreCountedDown();
         numbersAreThoseOfTheirFrom();
         queueIsAskedFromTheFirstToTheLast();
+        followersMoveUp();
         nextIsByTheRouteAsItBegins();
         busySinceAnEarlierSlotOnly();
         busyInTheLastSlotStill();
@@ -153,6 +154,24 @@ public final class EdgesSlotsTest {
         check.refused("inQueue() ahead of the first", ARGUMENT, air, () -> air.inQueue(1, -1, 0));
         check.refused("inQueue() of what -1", ARGUMENT, air, () -> air.inQueue(1, 0, -1));
         check.refused("inQueue() of what 5", ARGUMENT, air, () -> air.inQueue(1, 0, 5));
+    }
+
+    private static void followersMoveUp() {
+        Sharedair air = line(2);
+        for (int number = 0; number < 4; number++) {
+            air.send(0, 1, 1);
+        }
+        for (int gone = 1; gone <= 4; gone++) {
+            air.pass(1);
+            for (int nth = 0; nth <= 4; nth++) {
+                check.same("NUMBER of " + nth + " behind " + gone, air.inQueue(0, nth, 3), nth < 4 - gone ? nth + gone : -1);
+            }
+        }
+        check.same("NUMBER to an empty QUEUE", air.send(0, 1, 3), 4);
+        air.send(0, 1, 2);
+        check.same("NUMBER of the first", air.inQueue(0, 0, 3), 4);
+        check.same("LENGTH of the first", air.inQueue(0, 0, 2), 3);
+        check.same("LENGTH of the second", air.inQueue(0, 1, 2), 2);
     }
 
     private static void nextIsByTheRouteAsItBegins() {

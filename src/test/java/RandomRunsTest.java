@@ -4,7 +4,8 @@ import java.util.List;
 
 /**
  * Promises 1 to 25 over long runs of calls: what one call answers is found again, from the document's words,
- * out of what other calls answer; and no call throws but what the document says.
+ * out of what other calls answer; and no call throws but what the document says. These runs ask on behind the 512th
+ * call, where answers are free by the document: the class answers alike there.
  */
 public final class RandomRunsTest {
     private static final Check check = new Check();
