@@ -7,12 +7,14 @@ public final class EdgesReceivingTest {
         quarterOfFar();
         samePlace();
         senderGetsNothing();
+        senderSinceAnEarlierSlotGetsNothing();
         unheardDoesNotDisturb();
         firstSlotSpoilt();
         lastSlotSpoilt();
         nextOutOfHearingForASlot();
         deliveredUnknownToTheSender();
         knownAsItEndsIsEnough();
+        knownAsItBeginsIsNot();
         fourTriesAreRepeated();
         fifthTryDrops();
         nextFrameBeginsWithoutTries();
@@ -21,6 +23,7 @@ public final class EdgesReceivingTest {
         drawsNodeByNode();
         onceDeliveredThenDouble();
         sameNumberOfAnotherFrom();
+        doubleIsOneForItsToOnly();
         deliveredFromTheFirstNumberToTheLast();
         numbersToTheLastOfAllCalls();
         sixHopsAreCopiedSevenAreNot();
@@ -28,6 +31,7 @@ public final class EdgesReceivingTest {
         queueOfThreeTakesTheCopy();
         queueOfFourDropsTheCopy();
         queueOfFourTakesADelivery();
+        sevenHopsToAFullQueueAreOneDropped();
         placeLeftGoesToTheSmallerNumber();
         check.end();
     }
@@ -90,6 +94,18 @@ public final class EdgesReceivingTest {
         check.same("DELIVERED", air.air(4), 0);
         asked(air, "TRIES", 0, 6, 1);
         asked(air, "TRIES", 1, 6, 1);
+    }
+
+    /** 1 has been sending as 0, which does not hear it, begins to send to it. */
+    private static void senderSinceAnEarlierSlotGetsNothing() {
+        Sharedair air = deafPair();
+        air.send(1, 0, 3);
+        air.pass(1);
+        air.send(0, 1, 1);
+        air.pass(1);
+        asked(air, "STARTS", 0, 10, 1);
+        asked(air, "TRIES", 0, 6, 1);
+        check.same("delivered() to one that is sending", air.delivered(0, 0), false);
     }
 
     private static void unheardDoesNotDisturb() {
@@ -162,6 +178,17 @@ public final class EdgesReceivingTest {
         check.same("delivered()", air.delivered(0, 0), true);
         asked(air, "FRAMES in the QUEUE", 0, 4, 0);
         asked(air, "TRIES", 0, 6, 0);
+    }
+
+    private static void knownAsItBeginsIsNot() {
+        Sharedair air = line(2);
+        air.send(0, 1, 2);
+        air.pass(1);
+        air.tune(1, 3, false);
+        air.pass(1);
+        check.same("delivered()", air.delivered(0, 0), true);
+        asked(air, "FRAMES in the QUEUE", 0, 4, 1);
+        asked(air, "TRIES", 0, 6, 1);
     }
 
     /** LUCK is 430, 335, 220, 485 after 1 to 4 draws, of 4, 8, 16 and 32. */
@@ -288,6 +315,24 @@ public final class EdgesReceivingTest {
         check.same("DELIVERED, another NUMBER", air.air(4), 3);
     }
 
+    /** 0 does not hear 1, which hears it: over 1 the same FRAME goes to 2 twice, as a copy each time. */
+    private static void doubleIsOneForItsToOnly() {
+        Sharedair air = line(3);
+        air.tune(1, 4, false);
+        air.move(0, 0, 3);
+        air.send(0, 2, 1);
+        air.pass(2);
+        check.same("DELIVERED", air.air(4), 1);
+        asked(air, "WAIT", 0, 5, 2);
+        air.pass(3);
+        asked(air, "FRAMES in the QUEUE", 1, 4, 1);
+        check.same("DOUBLES as the copy comes again", air.air(5), 0);
+        air.pass(1);
+        asked(air, "FRAMES in the QUEUE", 1, 4, 0);
+        check.same("DOUBLES", air.air(5), 1);
+        check.same("DELIVERED", air.air(4), 1);
+    }
+
     private static void deliveredFromTheFirstNumberToTheLast() {
         Sharedair air = line(2);
         check.refused("delivered() of none sent", INDEX, air, () -> air.delivered(0, 0));
@@ -387,6 +432,22 @@ public final class EdgesReceivingTest {
         check.same("delivered()", air.delivered(0, 0), true);
         asked(air, "FRAMES in the QUEUE", 1, 4, 4);
         check.same("DROPPED", air.air(6), 0);
+    }
+
+    private static void sevenHopsToAFullQueueAreOneDropped() {
+        Sharedair air = RoutesTest.circle();
+        air.send(0, 2, 2);
+        air.pass(15);
+        check.same("HOPS", air.inQueue(3, 0, 4), 7);
+        asked(air, "SLOTS to come", 3, 7, 1);
+        for (int i = 0; i < 4; i++) {
+            air.send(0, 1, 1);
+        }
+        air.pass(1);
+        check.same("DROPPED", air.air(6), 1);
+        asked(air, "FRAMES in the QUEUE", 0, 4, 4);
+        asked(air, "FRAMES in the QUEUE", 3, 4, 0);
+        check.same("NUMBER of the last", air.inQueue(0, 3, 3), 4);
     }
 
     /** Nodes 0 and 1 stand where 2 does, and it gets both; its QUEUE has one place left. */

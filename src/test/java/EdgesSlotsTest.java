@@ -15,10 +15,13 @@ public final class EdgesSlotsTest {
         queueIsAskedFromTheFirstToTheLast();
         followersMoveUp();
         nextIsByTheRouteAsItBegins();
+        repeatGoesByTheRouteOfThen();
+        copyGoesByTheRouteOfItsQueue();
         busySinceAnEarlierSlotOnly();
         busyInTheLastSlotStill();
         unheardIsNotBusy();
         senderIsNotHeldBackByAnother();
+        cheatIsHeldBackWhileBusy();
         waitOfOneIsNotYetOver();
         waitOfACheatIsWaitedOut();
         waitStandsWhileBusy();
@@ -26,6 +29,7 @@ public final class EdgesSlotsTest {
         oneFrameWithoutRouteASlot();
         triesAreZeroWithoutRoute();
         passIsOneToTwoHundred();
+        eachSlotGoesByAlike();
         check.end();
     }
 
@@ -191,6 +195,41 @@ public final class EdgesSlotsTest {
         asked(air, "NEXT of the following FRAME", 0, 8, 2);
     }
 
+    /** 0 sends to 2 over 1 and does not know of it; as it repeats, it is LINKED with 2. */
+    private static void repeatGoesByTheRouteOfThen() {
+        Sharedair air = line(3);
+        air.tune(1, 1, false);
+        air.send(0, 2, 2);
+        air.pass(1);
+        asked(air, "NEXT of the first try", 0, 8, 1);
+        air.pass(1);
+        asked(air, "WAIT", 0, 5, 3);
+        air.move(2, 3, 4);
+        air.exchange(1);
+        air.pass(4);
+        asked(air, "STARTS", 0, 10, 2);
+        asked(air, "NEXT of the second try", 0, 8, 2);
+        air.pass(1);
+        check.same("delivered()", air.delivered(0, 0), true);
+    }
+
+    /** 1 has lost its ROUTE to 2, which 0 still has over 1; what has come to 1 is DROPPED there. */
+    private static void copyGoesByTheRouteOfItsQueue() {
+        Sharedair air = line(3);
+        air.move(2, 29, 29);
+        air.exchange(1);
+        check.same("ROUTE of 0", air.route(0, 2, 1), 1);
+        check.same("ROUTE of 1", air.route(1, 2, 1), -1);
+        air.send(0, 2, 1);
+        air.pass(1);
+        asked(air, "FRAMES in the QUEUE", 1, 4, 1);
+        check.same("DROPPED ahead", air.air(6), 0);
+        air.pass(1);
+        asked(air, "FRAMES in the QUEUE", 1, 4, 0);
+        asked(air, "STARTS", 1, 10, 0);
+        check.same("DROPPED", air.air(6), 1);
+    }
+
     private static void busySinceAnEarlierSlotOnly() {
         Sharedair air = line(2);
         air.send(0, 1, 2);
@@ -238,6 +277,18 @@ public final class EdgesSlotsTest {
         asked(air, "AIR", 1, 9, 3);
         asked(air, "TRIES", 0, 6, 1);
         asked(air, "TRIES", 1, 6, 1);
+    }
+
+    private static void cheatIsHeldBackWhileBusy() {
+        Sharedair air = line(2);
+        air.tune(1, 5, true);
+        air.send(0, 1, 3);
+        air.pass(1);
+        air.send(1, 0, 1);
+        air.pass(2);
+        asked(air, "STARTS of a CHEAT while it is busy", 1, 10, 0);
+        air.pass(1);
+        asked(air, "STARTS of a CHEAT thereafter", 1, 10, 1);
     }
 
     private static void waitOfOneIsNotYetOver() {
@@ -341,5 +392,25 @@ public final class EdgesSlotsTest {
         check.refused("pass(201)", ARGUMENT, air, () -> air.pass(201));
         check.same("pass(1)", air.pass(1), 1);
         check.same("pass(200)", air.pass(200), 201);
+    }
+
+    private static Sharedair crowd() {
+        Sharedair air = line(5);
+        air.tune(3, 4, true);
+        for (int i = 0; i < 12; i++) {
+            air.send(i % 5, (i % 5 + 1 + i / 5) % 5, 1 + i % 3);
+        }
+        return air;
+    }
+
+    private static void eachSlotGoesByAlike() {
+        Sharedair once = crowd();
+        Sharedair often = crowd();
+        once.pass(60);
+        for (int i = 1; i <= 60; i++) {
+            check.same("pass(1)", often.pass(1), i);
+        }
+        check.same("REPEATS in these SLOTS", often.ofNode(1, 12) > 3, true);
+        check.same("what is answered behind pass(60)", Answers.of(once), Answers.of(often));
     }
 }
